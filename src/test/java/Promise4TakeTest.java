@@ -27,6 +27,8 @@ public final class Promise4TakeTest {
         twelveAreFull(checks);
         tapeIsEmptiedWhateverIsAnswered(checks);
         faultLeavesTheList(checks);
+        wordsStopWhereTheTapeIsCut(checks);
+        wordsStopAtTheLastByte(checks);
         checks.finish();
     }
 
@@ -93,5 +95,29 @@ public final class Promise4TakeTest {
         checks.due("match(=1.2.3-abc.4)", run.match("=1.2.3-abc.4"), 1);
         checks.due("take after FAULT", run.take("9.9.9"), 1);
         checks.due("part(1, 3)", run.x.part(1, 3), 0);
+    }
+
+    /** What was cut off is no part of the word, whatever byte it was. */
+    private static void wordsStopWhereTheTapeIsCut(Checks checks) {
+        String text = "12.34.56-ab.78";
+        for (int n = 0; n <= text.length(); n++) {
+            boolean isVersion = n == 7 || n == 8 || n == 10 || n == 11 || n >= 13;
+            Run run = new Run();
+            run.put(text);
+            run.x.end(n);
+            checks.due("take of the first " + n, run.x.take(), isVersion ? 0 : VersionRanges.FAULT);
+            checks.due("its bytes of PRE", run.x.part(0, 3), isVersion ? Math.max(0, n - 9) : VersionRanges.NONE);
+        }
+    }
+
+    private static void wordsStopAtTheLastByte(Checks checks) {
+        String[] broken = {"1", "1.", "1.0", "1.0.", "1.0.0-", "1.0.0-a.", "<", "-"};
+        for (String text : broken) {
+            String blanks = " ".repeat(400 - text.length());
+            checks.due("take '" + text + "' at byte 400", new Run().take(blanks + text), VersionRanges.FAULT);
+        }
+        String blanks = " ".repeat(393);
+        checks.due("take 1.0.0-a at byte 400", new Run().take(blanks + "1.0.0-a"), 0);
+        checks.due("take 1.0.0-1 at byte 400", new Run().take(blanks + "1.0.0-1"), 0);
     }
 }

@@ -33,6 +33,7 @@ public final class Promise8MatchTest {
         highestNumbers(checks);
         precedenceDecides(checks);
         tapeIsEmptiedAndTheListStays(checks);
+        wordsStopAtTheLastByte(checks);
         checks.finish();
     }
 
@@ -165,5 +166,18 @@ public final class Promise8MatchTest {
         checks.due("part(0, 3)", run.x.part(0, 3), 1);
         checks.due("take after match", run.take("3.0.0"), 2);
         checks.due("match the new one", run.match(">2.0.0"), 4);
+    }
+
+    private static void wordsStopAtTheLastByte(Checks checks) {
+        String[] broken = {"<", ">", "=", "^", "~", "<=", "|", "||", "* ||", "* |", "*<", "^1.0", "^1.0.0-", "needs"};
+        for (String text : broken) {
+            String blanks = " ".repeat(400 - text.length());
+            checks.due("match '" + text + "' at byte 400", Run.with(ROW).match(blanks + text), VersionRanges.FAULT);
+        }
+        checks.due("match ^1.2.3 at byte 400", Run.with(ROW).match(" ".repeat(394) + "^1.2.3"), 1792);
+        Run cut = Run.with(ROW);
+        cut.put("* || x");
+        cut.x.end(1);
+        checks.due("match of the first byte of '* || x'", cut.x.match(), 4095);
     }
 }
