@@ -34,7 +34,8 @@ public final class RangeBoundsTest {
     }
 
     private static void notFiveChoices(Checks checks) {
-        Ask.isNoRange(checks, "* || * || * || * || *", "1.0.0 || 1.0.0 || 1.0.0 || 1.0.0 || 1.0.0", "*" + " || *".repeat(79));
+        Ask.isNoRange(checks, "* || * || * || * || *",
+                "1.0.0 || 1.0.0 || 1.0.0 || 1.0.0 || 1.0.0", "*" + " || *".repeat(79));
     }
 
     private static void notBefore(Checks checks) {
@@ -50,7 +51,8 @@ public final class RangeBoundsTest {
     }
 
     private static void aWordByItself(Checks checks) {
-        Ask.isNoRange(checks, "*||*", "* ||*", "*|| *", "1.0.0||1.0.0", "1.0.0|| 1.0.0", "1.0.0 ||1.0.0", "1.0.0-a|| *");
+        Ask.isNoRange(checks, "*||*", "* ||*", "*|| *", "1.0.0||1.0.0", "1.0.0|| 1.0.0",
+                "1.0.0 ||1.0.0", "1.0.0-a|| *");
     }
 
     private static void noOtherWord(Checks checks) {
@@ -74,7 +76,8 @@ public final class RangeBoundsTest {
 
     private static void endWords(Checks checks) {
         for (String word : new String[] {"needs", "breaks", "owns"}) {
-            Ask.isNoRange(checks, word, "* " + word, word + " *", "* " + word + " *", "* " + word + " x", "* || " + word);
+            Ask.isNoRange(checks, word, "* " + word, word + " *", "* " + word + " *",
+                    "* " + word + " x", "* || " + word);
             Ask.isNoRange(checks, "* || * " + word, "* " + word + " 1.0.0", FOUR_TESTS + " " + word, ">=1.0.0 " + word);
             Ask.isNoRange(checks, word + " || *", "* " + word + " || *");
             Ask.isNotTaken(checks, word, "1.0.0 " + word, word + " 1.0.0");

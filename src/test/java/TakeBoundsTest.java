@@ -35,7 +35,8 @@ public final class TakeBoundsTest {
     }
 
     private static void noVersion(Checks checks) {
-        Ask.isNotTaken(checks, "x", "1", "1.0", "1.0.0.0", "1.0.0-", "01.0.0", "1000000000.0.0", "1.0.0-abcdefghi", "\0");
+        Ask.isNotTaken(checks, "x", "1", "1.0", "1.0.0.0", "1.0.0-", "01.0.0", "1000000000.0.0",
+                "1.0.0-abcdefghi", "\0");
     }
 
     private static void moreWords(Checks checks) {

@@ -49,7 +49,8 @@ public final class TestBoundsTest {
 
     private static void signNeedsVersion(Checks checks) {
         for (String sign : SIGNS) {
-            Ask.isNoRange(checks, sign, "* " + sign, sign + " *", "* || " + sign, " ".repeat(400 - sign.length()) + sign);
+            Ask.isNoRange(checks, sign, "* " + sign, sign + " *", "* || " + sign,
+                    " ".repeat(400 - sign.length()) + sign);
         }
     }
 
@@ -90,7 +91,8 @@ public final class TestBoundsTest {
 
     private static void wholeVersion(Checks checks) {
         for (String sign : SIGNS) {
-            Ask.isNoRange(checks, sign + "1", sign + "1.0", sign + "1.0.", sign + "1.x.0", sign + "1.0.0-", sign + "01.0.0");
+            Ask.isNoRange(checks, sign + "1", sign + "1.0", sign + "1.0.", sign + "1.x.0",
+                    sign + "1.0.0-", sign + "01.0.0");
             Ask.isNoRange(checks, sign + "1.0.0.0", sign + "1.0.0+a", sign + "-1.0.0", sign + "1000000000.0.0");
             Ask.isNoRange(checks, sign + "1.0.0-01", sign + "1.0.0-abcdefghi", sign + "1.0.0-a.b.c.d.e");
         }

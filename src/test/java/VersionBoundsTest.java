@@ -72,7 +72,8 @@ public final class VersionBoundsTest {
     }
 
     private static void nothingBehind(Checks checks) {
-        Ask.isNoVersion(checks, "1.2.3+b", "1.2.3-a+b", "1.2.3*", "1.2.3||", "1.2.3<", "1.2.3=", "1.2.3-a*", "1.2.3-a|");
+        Ask.isNoVersion(checks, "1.2.3+b", "1.2.3-a+b", "1.2.3*", "1.2.3||", "1.2.3<", "1.2.3=",
+                "1.2.3-a*", "1.2.3-a|");
         Ask.isNoVersion(checks, "1.2.3\0", "1.2.3\t", "1.2.3-a\0", "1.2.3\u00a0", "1.2.3-a\u00ff");
     }
 
